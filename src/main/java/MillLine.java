@@ -323,35 +323,25 @@ public final class MillLine {
             }
         }
 
-        void setGrade(int lot, int grade) {
-            if (has(lot)) {
-                grades[lot] = grade;
-            }
-        }
-
         void setDamp(int lot, int damp) {
             if (has(lot)) {
                 damps[lot] = damp;
             }
         }
 
-        private void setPart(int lot, int origin, int millionths) {
-            if (has(lot) && isWithin(origin, 0, ORIGINS - 1)) {
-                parts[lot * ORIGINS + origin] = millionths;
-            }
-        }
-
         int bring(int newGrams, int grade, int damp, int origin) {
             int lot = make(newGrams, grade, damp);
-            setPart(lot, origin, MILLION);
+            if (has(lot) && isWithin(origin, 0, ORIGINS - 1)) {
+                parts[lot * ORIGINS + origin] = MILLION;
+            }
             return lot;
         }
 
         /** A new LOT like another one, but for its GRAMS and GRADE. */
         int splitFrom(int like, int newGrams, int grade) {
             int lot = make(newGrams, grade, dampOf(like));
-            for (int origin = 0; origin < ORIGINS; origin++) {
-                setPart(lot, origin, partOf(like, origin));
+            if (has(lot) && has(like)) {
+                System.arraycopy(parts, like * ORIGINS, parts, lot * ORIGINS, ORIGINS);
             }
             return lot;
         }
@@ -362,10 +352,10 @@ public final class MillLine {
             }
             lengthenIfFull();
             int lot = told;
+            grams[lot] = newGrams;
+            grades[lot] = grade;
+            damps[lot] = damp;
             told++;
-            setGrams(lot, newGrams);
-            setGrade(lot, grade);
-            setDamp(lot, damp);
             return lot;
         }
 
@@ -381,39 +371,39 @@ public final class MillLine {
             parts = Arrays.copyOf(parts, longer * ORIGINS);
         }
 
-        /** Both LOTS become the first one; the second stays as it was, though it is gone. */
-        void join(int first, int second) {
-            long one = gramsOf(first);
-            long other = gramsOf(second);
-            long both = one + other;
-            if (both <= 0) {
+        /** The first LOT gets all but the PARTS of both; the second stays as it was, though it is gone. */
+        void joinGrain(int first, int second) {
+            if (!has(first) || !has(second)) {
                 return;
             }
-            setGrade(first, nearest(one * gradeOf(first) + other * gradeOf(second), both));
-            setDamp(first, nearest(one * dampOf(first) + other * dampOf(second), both));
-            joinParts(first, second);
-            setGrams(first, both);
+            long one = grams[first];
+            long other = grams[second];
+            grades[first] = nearest(one * grades[first] + other * grades[second], one + other);
+            damps[first] = nearest(one * damps[first] + other * damps[second], one + other);
+            grams[first] = (int) (one + other);
         }
 
-        private void joinParts(int first, int second) {
-            long one = gramsOf(first);
-            long other = gramsOf(second);
-            long both = one + other;
-            if (both <= 0) {
+        void joinParts(int first, int second) {
+            if (!has(first) || !has(second)) {
                 return;
             }
+            long one = grams[first];
+            long other = grams[second];
+            if (one + other <= 0) {
+                return;
+            }
+            int row = first * ORIGINS;
             int lacking = MILLION;
-            int greatest = 0;
+            int greatest = row;
             for (int origin = 0; origin < ORIGINS; origin++) {
-                long sum = one * partOf(first, origin) + other * partOf(second, origin);
-                int joined = (int) (sum / both);
-                setPart(first, origin, joined);
-                lacking -= joined;
-                if (joined > partOf(first, greatest)) {
-                    greatest = origin;
+                long sum = one * parts[row + origin] + other * parts[second * ORIGINS + origin];
+                parts[row + origin] = (int) (sum / (one + other));
+                lacking -= parts[row + origin];
+                if (parts[row + origin] > parts[greatest]) {
+                    greatest = row + origin;
                 }
             }
-            setPart(first, greatest, partOf(first, greatest) + lacking);
+            parts[greatest] += lacking;
         }
 
         /** Of two whole numbers that are as near, the even one. */
@@ -529,7 +519,10 @@ public final class MillLine {
         }
 
         boolean wants(int out) {
-            return !isEmpty() && (out == outOfFirst || newGramsFor(out) > 0);
+            if (first == NONE) {
+                return false;
+            }
+            return out == outOfFirst || (out >= 0 && out < newGrams.length && newGrams[out] > 0);
         }
 
         int newLots() {
@@ -694,6 +687,22 @@ public final class MillLine {
                 wanted += outAt(out) == b && load.wants(out) ? 1 : 0;
             }
             return wanted;
+        }
+
+        /** One BEAT less to go: whether a WORKING ENDS by it. */
+        boolean endsByBeat() {
+            if (mode != WORKS && mode != MENDED) {
+                return false;
+            }
+            toGo--;
+            if (toGo > 0) {
+                return false;
+            }
+            if (mode == WORKS) {
+                return true;
+            }
+            mode = WAITS;
+            return false;
         }
 
         void turnTo(int newMode, int newToGo) {
@@ -972,7 +981,9 @@ public final class MillLine {
         }
 
         private void blend(Stage stage) {
-            lots.join(stage.load.first, stage.load.second);
+            // PARTS first: they go by the GRAMS that both came with.
+            lots.joinParts(stage.load.first, stage.load.second);
+            lots.joinGrain(stage.load.first, stage.load.second);
             stage.load.second = NONE;
         }
 
@@ -1009,7 +1020,10 @@ public final class MillLine {
         void passBeat() {
             beats++;
             for (int s = STAGES - 1; s >= 0; s--) {
-                countDown(layout.stageAt(s));
+                Stage stage = layout.stageAt(s);
+                if (stage != null && stage.endsByBeat()) {
+                    endWorking(stage);
+                }
             }
             for (int s = STAGES - 1; s >= 0; s--) {
                 putIfItCan(layout.stageAt(s));
@@ -1018,21 +1032,6 @@ public final class MillLine {
                 takeIfItCan(layout.stageAt(s));
             }
             noteEndOfBeat();
-        }
-
-        private void countDown(Stage stage) {
-            if (stage == null || (stage.mode != WORKS && stage.mode != MENDED)) {
-                return;
-            }
-            stage.toGo--;
-            if (stage.toGo > 0) {
-                return;
-            }
-            if (stage.mode == MENDED) {
-                stage.turnTo(WAITS, 0);
-            } else {
-                endWorking(stage);
-            }
         }
 
         private void endWorking(Stage stage) {

@@ -12,6 +12,8 @@ public final class BeatTest {
         twoPartsOneBin(c);
         divertPushedBack(c);
         numbersEnd(c);
+        lastNumbers(c);
+        blendHasBoth(c);
         c.end();
     }
 
@@ -239,5 +241,48 @@ public final class BeatTest {
         c.due("that is no ring", x.ring(0), -1);
         c.due("part of the last", x.part(1499, 0) + x.part(1499, 1), 1000000);
         c.due("no part beyond", x.part(1500, 0), -1);
+    }
+
+    private static void blendHasBoth(Checks c) {
+        MillLine x = Checks.bins(3, 1);
+        Checks.add(x, 0, 4, 0, 2, Checks.row(0, 1), Checks.row(2));
+        x.stands();
+        x.feed(1, 7, 0, 0, 0);
+        x.feed(0, 5, 0, 0, 0);
+        x.beat(2);
+        c.due("GRAMS of both", x.state(0, 8), 12);
+        c.due("the first is that of the first IN", x.state(0, 6), 1);
+        c.due("in STAGES", x.total(6), 12);
+        x.feed(2, 1, 0, 0, 0);
+        x.beat(1);
+        c.due("pushed back with one", x.state(0, 8), 12);
+        c.due("joined already", x.state(0, 6), 1);
+    }
+
+    /** With one number left a ROLL puts one new LOT, with none it still puts a LOT that stays whole. */
+    private static void lastNumbers(Checks c) {
+        MillLine x = Checks.bins(4, 20);
+        Checks.add(x, 0, 2, 0, 1, Checks.row(0), Checks.row(0, 1), 999, 1);
+        Checks.add(x, 1, 5, 1, 1, Checks.row(1), Checks.row());
+        Checks.add(x, 2, 2, 0, 1, Checks.row(2), Checks.row(3, 3, 3), 500, 1, 499);
+        x.stands();
+        x.feed(0, 100000, 0, 0, 0);
+        for (int i = 0; i < 8; i++) {
+            x.beat(187);
+        }
+        c.due("a new LOT each BEAT but the first", x.count(1), 1496);
+        x.feed(2, 100, 0, 0, 0);
+        x.feed(2, 1, 0, 0, 0);
+        x.beat(1);
+        c.due("one number is left", x.count(1), 1499);
+        x.beat(1);
+        c.due("it is the last", x.in(3, 1, 0), 1499);
+        c.due("of what is new", x.in(3, 1, 1), 49);
+        c.due("0 has none left", x.state(0, 0), 2);
+        c.due("2 works upon the other", x.state(2, 8), 1);
+        x.beat(1);
+        c.due("which needs none", x.in(3, 2, 1), 1);
+        c.due("no feed", x.feed(2, 1, 0, 0, 0), -1);
+        c.due("1500 LOTS", x.count(1), 1500);
     }
 }

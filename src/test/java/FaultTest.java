@@ -47,6 +47,17 @@ public final class FaultTest {
         }
         c.due("40 were planned", x.plan(0, 41, 0), false);
         c.due("39 to come", x.count(6), 39);
+        MillLine y = clean(1);
+        y.stands();
+        for (int i = 0; i < 3; i++) {
+            y.feed(0, 8, 0, 0, 0);
+        }
+        y.beat(3);
+        c.due("two have ENDED", y.state(0, 2), 2);
+        c.due("plan the second then", y.plan(0, 2, 0), false);
+        c.due("plan the one that WORKS", y.plan(0, 3, 0), true);
+        y.beat(1);
+        c.due("it fails", y.state(0, 0), 3);
     }
 
     private static void ruling(Checks c) {
@@ -97,6 +108,7 @@ public final class FaultTest {
         c.due("works again", x.state(0, 0), 1);
         c.due("upon the next", x.state(0, 6), 1);
         c.due("BEATS mended in all", x.state(0, 5), 5);
+        c.due("the end of MENDING is that of no WORKING", x.state(0, 2), 1);
         c.due("it never waited", x.state(0, 3), 0);
         x.beat(2);
         c.due("the second is clean", x.in(1, 0, 1), 5);
@@ -129,6 +141,7 @@ public final class FaultTest {
         c.due("as it was", x.in(1, 0, 1), 8);
         c.due("then it WAITS", x.state(0, 0), 0);
         c.due("a FAULT all the same", x.state(0, 7), 1);
+        goOnAfterRoll(c);
         MillLine y = Checks.bins(4, 1);
         Checks.add(y, 0, 2, 0, 1, Checks.row(0), Checks.row(1, 2, 3), 400, 300, 300);
         Checks.add(y, 1, 3, 2, 1, Checks.row(2), Checks.row(3, 1));
@@ -150,6 +163,26 @@ public final class FaultTest {
         c.due("taken whole", y.state(1, 8), 100);
     }
 
+    /** Nothing of the parts of an earlier WORKING is left. */
+    private static void goOnAfterRoll(Checks c) {
+        MillLine x = Checks.bins(3, 5);
+        Checks.add(x, 0, 2, 0, 1, Checks.row(0), Checks.row(1, 2), 400, 600);
+        x.rule(0, 0, 1, 1);
+        x.plan(0, 2, 0);
+        x.stands();
+        x.feed(0, 100, 0, 0, 0);
+        x.beat(2);
+        c.due("has nothing", x.state(0, 8), 0);
+        c.due("nothing in STAGES", x.total(6), 0);
+        x.feed(0, 70, 0, 0, 0);
+        x.beat(1);
+        c.due("has the next", x.state(0, 8), 70);
+        x.beat(1);
+        c.due("went on whole", x.in(1, 1, 1), 70);
+        c.due("no part besides", x.level(2, 0), 1);
+        c.due("in BINS", x.total(5), 170);
+    }
+
     private static void goOnAsSetAside(Checks c) {
         MillLine x = Checks.bins(4, 5);
         Checks.add(x, 0, 4, 0, 1, Checks.row(0, 1), Checks.row(2));
@@ -164,6 +197,7 @@ public final class FaultTest {
         x.feed(3, 30, 0, 0, 0);
         x.beat(2);
         c.due("three LOTS", x.count(4), 3);
+        c.due("the first to be taken is first", x.aside(1, 0), 0);
         c.due("the greatest STAGE first", x.aside(0, 0), 2);
         c.due("BLEND mended", x.state(0, 1), 2);
         c.due("PACK mended", x.state(1, 0), 3);

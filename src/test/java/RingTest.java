@@ -9,6 +9,7 @@ public final class RingTest {
         leastSecond(c);
         fullForIt(c);
         stopped(c);
+        ringOfAll(c);
         c.end();
     }
 
@@ -143,5 +144,19 @@ public final class RingTest {
         dueRing(c, "STOPPED STAGES are not pushed back", x);
         x.command(1);
         dueRing(c, "again", x, 0, 1);
+    }
+
+    private static void ringOfAll(Checks c) {
+        MillLine x = Checks.bins(12, 1);
+        int[] due = new int[12];
+        int[] ins = new int[12];
+        for (int i = 0; i < 12; i++) {
+            due[i] = i * 5 % 12;
+            ins[i] = i;
+            Checks.add(x, due[i], 0, 0, 1, Checks.row(i), Checks.row((i + 1) % 12));
+        }
+        x.stands();
+        fill(x, ins);
+        dueRing(c, "all twelve", x, due);
     }
 }

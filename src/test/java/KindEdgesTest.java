@@ -20,6 +20,7 @@ public final class KindEdgesTest {
         partsThatLack(c);
         partsOfLikeOnes(c);
         partsStay(c);
+        partsOfOthersStay(c);
         packFills(c);
         packRestStays(c);
         packOfItsGrade(c);
@@ -298,6 +299,26 @@ public final class KindEdgesTest {
         c.due("WATER", x.total(1), 30);
         c.due("GRAMS", x.in(4, 0, 1), 60);
         dueOrigins(c, x, 0, 0, 0, 333333, 666667);
+    }
+
+    /** LOTS 0 and 2 are blended; 1 and 3, the next numbers, and 4 stay as they were. */
+    private static void partsOfOthersStay(Checks c) {
+        c.by("PARTS: a BLEND changes those of its first LOT alone");
+        for (int origin = 0; origin <= 3; origin++) {
+            MillLine x = Checks.one(4, 0, 1, 20);
+            int[] bins = {0, 5, 1, 5, 5};
+            for (int lot = 0; lot < 5; lot++) {
+                x.feed(bins[lot], 10, 0, 0, (origin + lot) % 4);
+            }
+            x.beat(2);
+            c.due("it is blended", x.part(0, origin), 500000);
+            for (int lot = 1; lot < 5; lot++) {
+                for (int other = 0; other <= 3; other++) {
+                    int due = (origin + lot) % 4 == other ? 1000000 : 0;
+                    c.due("PART " + other + " of LOT " + lot, x.part(lot, other), due);
+                }
+            }
+        }
     }
 
     private static void dueSacks(Checks c, int a, int grams, int sacks) {
